@@ -1,0 +1,249 @@
+import java.util.List;
+import java.util.Map;
+import java.util.Random;
+import java.util.TreeMap;
+
+/** Long mixed runs, the same ones each time, answered by the program as by the model. */
+public final class ModelTest {
+    private static final int RUNS = 1200;
+    private static final int CALLS = 512;
+
+    /** What the runs must have met, else they prove little. */
+    private static final List<String> RARE = List.of(
+        "account emptied", "advance by the timer", "cut at a transfer", "cut at a vertex",
+        "cut at echo", "cut at ready by echoes", "cut at ready by readies", "leader committed by a later one",
+        "leader skipped, not there", "leader skipped, there but not reached", "pump with a full board",
+        "ready by readies", "several ripe vertices", "transfer moved", "transfer not covered",
+        "transfer with a position already", "vertex not made, ninety are there");
+
+    private static final int PUMP = 0;
+    private static final int DELIVER = 1;
+    private static final int TICK = 2;
+    private static final int SUBMIT = 3;
+    private static final int FORGE = 4;
+    private static final int SEND = 5;
+
+    /** How a run mixes its calls: in a hundred so many pump, deliver, tick, submit, forge, send; the rest breaks. */
+    private static final int[][] STYLES = {
+        {78, 2, 10, 10, 0, 0}, // all goes well
+        {58, 2, 28, 8, 0, 2}, // one node lags, and timers run out
+        {60, 8, 12, 8, 2, 4}, // small steps and many crashes
+        {48, 2, 12, 6, 26, 5}, // a forger
+        {40, 36, 10, 8, 0, 2}, // messages out of order
+        {92, 0, 6, 2, 0, 0}, // a talker, who is silent at first ..
+        {4, 1, 1, 1, 1, 91}, // .. and then fills the board
+    };
+    private static final int FORGER = 3;
+    private static final int OUT_OF_ORDER = 4;
+    private static final int TALKER = 5;
+    private static final int TALK_FROM = 140;
+
+    private final Random random;
+    private final DagLedger real = new DagLedger();
+    private final Model model;
+    private final int run;
+    private final int style;
+    private final int laggard;
+
+    private ModelTest(int run, Map<String, Integer> seen) {
+        this.run = run;
+        random = new Random(run);
+        model = new Model(seen);
+        style = run % (STYLES.length - 1);
+        laggard = random.nextInt(4);
+    }
+
+    private interface Answer {
+        int get();
+    }
+
+    public static void main(String[] args) {
+        Map<String, Integer> seen = new TreeMap<>();
+        for (int run = 0; run < RUNS && Check.wrong() == 0; run++) {
+            new ModelTest(run, seen).runCalls();
+        }
+        for (String rare : RARE) {
+            Check.yes("the runs met: " + rare, seen.containsKey(rare));
+        }
+        System.out.println(seen);
+        Check.end();
+    }
+
+    private void runCalls() {
+        for (int call = 0; call < CALLS && Check.wrong() == 0; call++) {
+            oneCall(call);
+            if (call % 8 == 0 || call == CALLS - 1) {
+                lookAtNodes();
+            }
+        }
+        lookAtBoard();
+    }
+
+    private void same(String call, Answer got, Answer want) {
+        Check.due("run " + run + ": " + call, answer(got), answer(want));
+    }
+
+    private static int answer(Answer asked) {
+        try {
+            return asked.get();
+        } catch (IndexOutOfBoundsException e) {
+            return e.getClass() == IndexOutOfBoundsException.class ? -1001 : -1003;
+        } catch (IllegalStateException e) {
+            return -1002;
+        }
+    }
+
+    private static int bit(boolean answer) {
+        return answer ? 1 : 0;
+    }
+
+    private boolean chance(int percent) {
+        return random.nextInt(100) < percent;
+    }
+
+    private int anyNode() {
+        return chance(1) ? random.nextInt(8) - 2 : random.nextInt(4);
+    }
+
+    private int near(int count) {
+        return chance(4) ? random.nextInt(count + 6) - 3 : random.nextInt(Math.max(1, count));
+    }
+
+    private void oneCall(int call) {
+        if ((style == FORGER && call == 40 + run % 60) || (style == TALKER && call == TALK_FROM)) {
+            corruptOne(laggard);
+            return;
+        }
+        int[] weights = STYLES[style == TALKER && call > TALK_FROM ? style + 1 : style];
+        int roll = random.nextInt(100);
+        int kind = 0;
+        while (kind < weights.length && roll >= weights[kind]) {
+            roll -= weights[kind];
+            kind++;
+        }
+        switch (kind) {
+            case PUMP -> pumpSome(call);
+            case DELIVER -> deliverSome(call);
+            case TICK -> tickSome();
+            case SUBMIT -> submitSome();
+            case FORGE -> forgeSome();
+            case SEND -> sendSome();
+            default -> breakSome();
+        }
+    }
+
+    private void pumpSome(int call) {
+        int node = anyNode();
+        if (node == laggard && (style == 1 && chance(85) || style == OUT_OF_ORDER && call < 300)) {
+            return;
+        }
+        if (style == TALKER && call < TALK_FROM) {
+            pumpAll(call % 4);
+            return;
+        }
+        int n = chance(2) ? random.nextInt(54) - 1 : style == 2 ? 1 + random.nextInt(12) : 1 + random.nextInt(50);
+        same("pump(" + node + ", " + n + ")", () -> real.pump(node, n), () -> model.pump(node, n));
+    }
+
+    private void pumpAll(int node) {
+        same("pump(" + node + ", 50)", () -> real.pump(node, 50), () -> model.pump(node, 50));
+    }
+
+    private void deliverSome(int call) {
+        int node = style == OUT_OF_ORDER && chance(80) ? laggard : anyNode();
+        int m = chance(30) ? model.messages() - 1 - random.nextInt(30) : near(model.messages());
+        if (style == OUT_OF_ORDER && call < 300 && model.message(m, 0) != 2) {
+            return;
+        }
+        same("deliver(" + m + ", " + node + ")", () -> bit(real.deliver(m, node)), () -> bit(model.deliver(m, node)));
+    }
+
+    private void tickSome() {
+        int node = anyNode();
+        same("tick(" + node + ")", () -> bit(real.tick(node)), () -> bit(model.tick(node)));
+    }
+
+    private void submitSome() {
+        int node = anyNode();
+        int from = chance(3) ? random.nextInt(8) - 2 : random.nextInt(4);
+        int to = chance(3) ? random.nextInt(8) - 2 : random.nextInt(4);
+        int amount = chance(5) ? List.of(0, 1, 1000, 1001, -1, 100).get(random.nextInt(6)) : 10 * (1 + random.nextInt(15));
+        same("submit(" + node + ", " + from + ", " + to + ", " + amount + ")",
+            () -> real.submit(node, from, to, amount), () -> model.submit(node, from, to, amount));
+    }
+
+    private void forgeSome() {
+        int round = chance(3) ? random.nextInt(20) - 2 : 1 + random.nextInt(14);
+        int parents = round == 1 && chance(90) ? 0
+            : List.of(7, 11, 13, 14, 15, 3, 0, 16, -1).get(random.nextInt(chance(5) ? 9 : 5));
+        int a = near(model.transferCount());
+        int b = chance(30) ? a : near(model.transferCount()) - random.nextInt(2);
+        same("forge(" + round + ", " + parents + ", " + a + ", " + b + ")",
+            () -> real.forge(round, parents, a, b), () -> model.forge(round, parents, a, b));
+    }
+
+    private void sendSome() {
+        int kind = chance(3) ? random.nextInt(7) - 2 : random.nextInt(3);
+        int v = near(model.vertexCount());
+        same("send(" + kind + ", " + v + ")", () -> real.send(kind, v), () -> model.send(kind, v));
+    }
+
+    private void breakSome() {
+        int node = anyNode();
+        int roll = random.nextInt(100);
+        if (roll < 10) {
+            same("crash(" + node + ")", () -> bit(real.crash(node)), () -> bit(model.crash(node)));
+        } else if (roll < 25 || roll >= 60) {
+            same("restart(" + node + ")", () -> bit(real.restart(node)), () -> bit(model.restart(node)));
+        } else if (roll < 45) {
+            int k = random.nextInt(12) - 1;
+            same("cut(" + node + ", " + k + ")", () -> bit(real.cut(node, k)), () -> bit(model.cut(node, k)));
+        } else if (roll < 50) {
+            corruptOne(node);
+        }
+    }
+
+    private void corruptOne(int node) {
+        same("corrupt(" + node + ")", () -> bit(real.corrupt(node)), () -> bit(model.corrupt(node)));
+    }
+
+    private void lookAtNodes() {
+        for (int i = 0; i < 4; i++) {
+            int node = i;
+            for (int w = -1; w <= 9; w++) {
+                int what = w;
+                same("node(" + node + ", " + what + ")", () -> real.node(node, what), () -> model.node(node, what));
+            }
+            for (int p = -1; p <= 40; p++) {
+                int position = p;
+                same("at(" + node + ", " + p + ")", () -> real.at(node, position), () -> model.at(node, position));
+            }
+            for (int a = -1; a <= 4; a++) {
+                int author = a;
+                same("balance(" + node + ", " + a + ")", () -> real.balance(node, author), () -> model.balance(node, author));
+                for (int r = -1; r <= 16; r++) {
+                    int round = r;
+                    same("dag(" + node + ", " + a + ", " + r + ")",
+                        () -> real.dag(node, author, round), () -> model.dag(node, author, round));
+                }
+            }
+        }
+    }
+
+    private void lookAtBoard() {
+        for (int i = -1; i <= model.messages() + 1; i++) {
+            int m = i;
+            for (int w = -1; w <= 3; w++) {
+                int what = w;
+                same("message(" + m + ", " + what + ")", () -> real.message(m, what), () -> model.message(m, what));
+            }
+        }
+        for (int i = -1; i <= 91; i++) {
+            int v = i;
+            for (int w = -1; w <= 5; w++) {
+                int what = w;
+                same("vertex(" + v + ", " + what + ")", () -> real.vertex(v, what), () -> model.vertex(v, what));
+            }
+        }
+    }
+}
