@@ -3,6 +3,7 @@ public final class BroadcastTest {
     public static void main(String[] args) {
         echoesReadiesAndDelivers();
         keepsItsWordOverACrash();
+        losesWhatItNoted();
         echoesOneOfTwo();
         echoesOnlyWhatIsWellFormed();
         echoesOnlyTheAuthorsSend();
@@ -86,6 +87,21 @@ public final class BroadcastTest {
         Check.due("what was noted is lost", x.message(7, 0), -1);
         deliver(x, 2, 4);
         messageIs(x, 7, 2, 2, 0);
+    }
+
+    private static void losesWhatItNoted() {
+        DagLedger x = new DagLedger();
+        x.tick(0);
+        deliver(x, 0, 0);
+        deliver(x, 1, 0);
+        deliver(x, 2, 0);
+        deliver(x, 3, 1, 2);
+        x.crash(3);
+        x.restart(3);
+        deliver(x, 3, 3);
+        Check.due("two echoes were lost", x.message(4, 0), -1);
+        deliver(x, 3, 1, 2);
+        messageIs(x, 4, 2, 3, 0);
     }
 
     private static void echoesOneOfTwo() {

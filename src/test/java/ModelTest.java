@@ -3,7 +3,10 @@ import java.util.Map;
 import java.util.Random;
 import java.util.TreeMap;
 
-/** Long mixed runs, the same ones each time, answered by the program as by the model. */
+/**
+ * Long mixed runs, the same ones each time, answered by the program as by the model. What only asks changes nothing, so
+ * it is not counted among the calls of a run.
+ */
 public final class ModelTest {
     private static final int RUNS = 1200;
     private static final int CALLS = 512;
