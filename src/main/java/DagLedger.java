@@ -598,7 +598,7 @@ public final class DagLedger {
         }
     }
 
-    /** A node. */
+    /** A node. All but its disk is as empty while it is down as the document tells, so nobody who asks needs to look. */
     private static final class Replica {
         private final int id;
         private final Board board;

@@ -170,7 +170,8 @@ public final class ModelTest {
         int node = anyNode();
         int from = chance(3) ? random.nextInt(8) - 2 : random.nextInt(4);
         int to = chance(3) ? random.nextInt(8) - 2 : random.nextInt(4);
-        int amount = chance(5) ? List.of(0, 1, 1000, 1001, -1, 100).get(random.nextInt(6)) : 10 * (1 + random.nextInt(15));
+        int amount = chance(5) ? List.of(0, 1, 1000, 1001, -1, 100).get(random.nextInt(6))
+            : 10 * (1 + random.nextInt(15));
         same("submit(" + node + ", " + from + ", " + to + ", " + amount + ")",
             () -> real.submit(node, from, to, amount), () -> model.submit(node, from, to, amount));
     }
@@ -223,7 +224,8 @@ public final class ModelTest {
             }
             for (int a = -1; a <= 4; a++) {
                 int author = a;
-                same("balance(" + node + ", " + a + ")", () -> real.balance(node, author), () -> model.balance(node, author));
+                same("balance(" + node + ", " + a + ")",
+                    () -> real.balance(node, author), () -> model.balance(node, author));
                 for (int r = -1; r <= 16; r++) {
                     int round = r;
                     same("dag(" + node + ", " + a + ", " + r + ")",

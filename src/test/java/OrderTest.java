@@ -18,7 +18,10 @@ public final class OrderTest {
         Check.end();
     }
 
-    /** All honest nodes are in round 2 and have its three vertices. Transfers 0, 1 are in node 0's first vertex, 2 in its second. */
+    /**
+     * All honest nodes are in round 2 and have its three vertices. Transfers 0 and 1 are in node 0's first vertex, 2 is
+     * in its second, 4 in node 3's first.
+     */
     private static DagLedger roundTwoWithoutLeader() {
         DagLedger x = new DagLedger();
         x.submit(0, 0, 1, 1);
