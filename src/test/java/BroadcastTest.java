@@ -13,21 +13,21 @@ public final class BroadcastTest {
         Check.end();
     }
 
-    private static void messageIs(DagLedger x, int m, int kind, int sender, int vertex) {
+    private static void messageIs(Counted x, int m, int kind, int sender, int vertex) {
         Check.due("kind of message " + m, x.message(m, 0), kind);
         Check.due("sender of message " + m, x.message(m, 1), sender);
         Check.due("vertex of message " + m, x.message(m, 2), vertex);
     }
 
-    private static void deliver(DagLedger x, int node, int... messages) {
+    private static void deliver(Counted x, int node, int... messages) {
         for (int m : messages) {
             Check.yes("deliver(" + m + ", " + node + ")", x.deliver(m, node));
         }
     }
 
     /** Vertex 0 of node 0: SEND is 0; echoes of 1, 0, 2 are 1, 2, 3; readies of 3, 1, 0 are 4, 5, 6. */
-    private static DagLedger oneVertexSpread() {
-        DagLedger x = new DagLedger();
+    private static Counted oneVertexSpread() {
+        Counted x = new Counted();
         x.tick(0);
         deliver(x, 1, 0);
         deliver(x, 0, 0);
@@ -39,7 +39,7 @@ public final class BroadcastTest {
     }
 
     private static void echoesReadiesAndDelivers() {
-        DagLedger x = new DagLedger();
+        Counted x = new Counted();
         x.tick(0);
         deliver(x, 1, 0);
         messageIs(x, 1, 1, 1, 0);
@@ -71,7 +71,7 @@ public final class BroadcastTest {
     }
 
     private static void keepsItsWordOverACrash() {
-        DagLedger x = oneVertexSpread();
+        Counted x = oneVertexSpread();
         deliver(x, 0, 6);
         x.crash(0);
         x.restart(0);
@@ -90,7 +90,7 @@ public final class BroadcastTest {
     }
 
     private static void losesWhatItNoted() {
-        DagLedger x = new DagLedger();
+        Counted x = new Counted();
         x.tick(0);
         deliver(x, 0, 0);
         deliver(x, 1, 0);
@@ -105,7 +105,7 @@ public final class BroadcastTest {
     }
 
     private static void echoesOneOfTwo() {
-        DagLedger x = new DagLedger();
+        Counted x = new Counted();
         x.corrupt(3);
         x.forge(1, 0, -1, -1);
         x.forge(1, 0, -1, -1);
@@ -122,7 +122,7 @@ public final class BroadcastTest {
     }
 
     private static void echoesOnlyWhatIsWellFormed() {
-        DagLedger x = new DagLedger();
+        Counted x = new Counted();
         x.corrupt(3);
         x.forge(1, 7, -1, -1);
         x.forge(1, 1, -1, -1);
@@ -141,7 +141,7 @@ public final class BroadcastTest {
     }
 
     private static void echoesOnlyTheAuthorsSend() {
-        DagLedger x = new DagLedger();
+        Counted x = new Counted();
         x.tick(0);
         x.corrupt(3);
         x.send(0, 0);
@@ -152,7 +152,7 @@ public final class BroadcastTest {
     }
 
     private static void countsEachVertexByItself() {
-        DagLedger x = new DagLedger();
+        Counted x = new Counted();
         x.corrupt(3);
         x.forge(1, 0, -1, -1);
         x.forge(1, 0, -1, -1);
@@ -183,7 +183,7 @@ public final class BroadcastTest {
     }
 
     private static void waitsForParents() {
-        DagLedger x = Runs.fourNodes(4, 4);
+        Counted x = Runs.fourNodes(4, 4);
         int child = x.dag(0, 0, 2);
         Check.yes("a vertex of round 2 is there", child >= 0);
         int parents = x.vertex(child, 2);
@@ -208,7 +208,7 @@ public final class BroadcastTest {
         Check.due("and nothing else", x.node(3, 5), here + 1);
     }
 
-    private static void deliverReadies(DagLedger x, int[] vertexOfReady, int vertex) {
+    private static void deliverReadies(Counted x, int[] vertexOfReady, int vertex) {
         for (int m = 0; m < vertexOfReady.length; m++) {
             if (vertexOfReady[m] == vertex) {
                 x.deliver(m, 3);
@@ -217,7 +217,7 @@ public final class BroadcastTest {
     }
 
     private static void goesOnWithoutOneNode() {
-        DagLedger x = new DagLedger();
+        Counted x = new Counted();
         for (int node = 0; node < 3; node++) {
             x.tick(node);
         }

@@ -1,6 +1,12 @@
 /** Compares answers with those that are due, and tells what is not as due. */
 final class Check {
+    /** What stands for an answer if the call throws; no call answers these. */
+    static final int NO_SUCH_NODE = -1001;
+    static final int NOT_UP = -1002;
+    private static final int OTHERWISE_THROWN = -1003;
+
     private static final int SHOWN = 40;
+    private static String sentence = "";
     private static int wrong = 0;
     private static int looked = 0;
 
@@ -8,7 +14,12 @@ final class Check {
     }
 
     interface Call {
-        void run();
+        int answer();
+    }
+
+    /** The words of the document for which the answers from here on are looked at. */
+    static void about(String words) {
+        sentence = "[" + words + "] ";
     }
 
     static void due(String call, long got, long want) {
@@ -19,38 +30,40 @@ final class Check {
     }
 
     static void yes(String call, boolean got) {
-        due(call, got ? 1 : 0, 1);
+        due(call, bit(got), 1);
     }
 
     static void no(String call, boolean got) {
-        due(call, got ? 1 : 0, 0);
+        due(call, bit(got), 0);
     }
 
     static void noSuchNode(String call, Call made) {
-        thrown(call, made, "IndexOutOfBoundsException");
+        due(call, answer(made), NO_SUCH_NODE);
     }
 
     static void notUp(String call, Call made) {
-        thrown(call, made, "IllegalStateException");
+        due(call, answer(made), NOT_UP);
     }
 
-    private static void thrown(String call, Call made, String want) {
-        looked++;
-        String got = "nothing";
+    static int bit(boolean answer) {
+        return answer ? 1 : 0;
+    }
+
+    static int answer(Call made) {
         try {
-            made.run();
+            return made.answer();
         } catch (RuntimeException e) {
-            got = e.getClass().getSimpleName();
-        }
-        if (!got.equals(want)) {
-            tell(call + " threw " + got + ", due is " + want);
+            if (e.getClass() == IndexOutOfBoundsException.class) {
+                return NO_SUCH_NODE;
+            }
+            return e.getClass() == IllegalStateException.class ? NOT_UP : OTHERWISE_THROWN;
         }
     }
 
     static void tell(String text) {
         wrong++;
         if (wrong <= SHOWN) {
-            System.out.println(text);
+            System.out.println(sentence + text);
         }
     }
 

@@ -56,10 +56,6 @@ public final class ModelTest {
         laggard = random.nextInt(4);
     }
 
-    private interface Answer {
-        int get();
-    }
-
     public static void main(String[] args) {
         Map<String, Integer> seen = new TreeMap<>();
         for (int run = 0; run < RUNS && Check.wrong() == 0; run++) {
@@ -82,22 +78,8 @@ public final class ModelTest {
         lookAtBoard();
     }
 
-    private void same(String call, Answer got, Answer want) {
-        Check.due("run " + run + ": " + call, answer(got), answer(want));
-    }
-
-    private static int answer(Answer asked) {
-        try {
-            return asked.get();
-        } catch (IndexOutOfBoundsException e) {
-            return e.getClass() == IndexOutOfBoundsException.class ? -1001 : -1003;
-        } catch (IllegalStateException e) {
-            return -1002;
-        }
-    }
-
-    private static int bit(boolean answer) {
-        return answer ? 1 : 0;
+    private void same(String call, Check.Call got, Check.Call want) {
+        Check.due("run " + run + ": " + call, Check.answer(got), Check.answer(want));
     }
 
     private boolean chance(int percent) {
@@ -158,12 +140,13 @@ public final class ModelTest {
         if (style == OUT_OF_ORDER && call < 300 && model.message(m, 0) != 2) {
             return;
         }
-        same("deliver(" + m + ", " + node + ")", () -> bit(real.deliver(m, node)), () -> bit(model.deliver(m, node)));
+        same("deliver(" + m + ", " + node + ")",
+            () -> Check.bit(real.deliver(m, node)), () -> Check.bit(model.deliver(m, node)));
     }
 
     private void tickSome() {
         int node = anyNode();
-        same("tick(" + node + ")", () -> bit(real.tick(node)), () -> bit(model.tick(node)));
+        same("tick(" + node + ")", () -> Check.bit(real.tick(node)), () -> Check.bit(model.tick(node)));
     }
 
     private void submitSome() {
@@ -196,19 +179,20 @@ public final class ModelTest {
         int node = anyNode();
         int roll = random.nextInt(100);
         if (roll < 10) {
-            same("crash(" + node + ")", () -> bit(real.crash(node)), () -> bit(model.crash(node)));
+            same("crash(" + node + ")", () -> Check.bit(real.crash(node)), () -> Check.bit(model.crash(node)));
         } else if (roll < 25 || roll >= 60) {
-            same("restart(" + node + ")", () -> bit(real.restart(node)), () -> bit(model.restart(node)));
+            same("restart(" + node + ")", () -> Check.bit(real.restart(node)), () -> Check.bit(model.restart(node)));
         } else if (roll < 45) {
             int k = random.nextInt(12) - 1;
-            same("cut(" + node + ", " + k + ")", () -> bit(real.cut(node, k)), () -> bit(model.cut(node, k)));
+            same("cut(" + node + ", " + k + ")",
+                () -> Check.bit(real.cut(node, k)), () -> Check.bit(model.cut(node, k)));
         } else if (roll < 50) {
             corruptOne(node);
         }
     }
 
     private void corruptOne(int node) {
-        same("corrupt(" + node + ")", () -> bit(real.corrupt(node)), () -> bit(model.corrupt(node)));
+        same("corrupt(" + node + ")", () -> Check.bit(real.corrupt(node)), () -> Check.bit(model.corrupt(node)));
     }
 
     private void lookAtNodes() {

@@ -22,8 +22,8 @@ public final class OrderTest {
      * All honest nodes are in round 2 and have its three vertices. Transfers 0 and 1 are in node 0's first vertex, 2 is
      * in its second, 4 in node 3's first.
      */
-    private static DagLedger roundTwoWithoutLeader() {
-        DagLedger x = new DagLedger();
+    private static Counted roundTwoWithoutLeader() {
+        Counted x = new Counted();
         x.submit(0, 0, 1, 1);
         x.submit(0, 0, 1, 2);
         x.submit(0, 0, 1, 4);
@@ -45,12 +45,12 @@ public final class OrderTest {
         return x;
     }
 
-    private static int forgeLeader(DagLedger x) {
+    private static int forgeLeader(Counted x) {
         return x.forge(2, 13, 3, 0);
     }
 
     /** The nodes that go on by the timer, so that L is no parent of theirs. */
-    private static void goOnWithout(DagLedger x, int... nodes) {
+    private static void goOnWithout(Counted x, int... nodes) {
         for (int node : nodes) {
             Runs.tick(x, node, 3);
             Check.due("it goes on by the timer", x.node(node, 1), 3);
@@ -58,7 +58,7 @@ public final class OrderTest {
     }
 
     /** Pumps until the honest nodes have committed round 4; whether one of them said 2 before. */
-    private static boolean saidTwo(DagLedger x) {
+    private static boolean saidTwo(Counted x) {
         boolean said = false;
         for (int i = 0; i < 12 && x.node(0, 4) < 4; i++) {
             for (int node : HONEST) {
@@ -70,7 +70,7 @@ public final class OrderTest {
         return said;
     }
 
-    private static void orderIs(DagLedger x, int... due) {
+    private static void orderIs(Counted x, int... due) {
         for (int node : HONEST) {
             Check.due("how many in node " + node, x.node(node, 6), due.length);
             for (int i = 0; i < due.length; i++) {
@@ -81,7 +81,7 @@ public final class OrderTest {
     }
 
     private static void oneStandsOnTheLeader() {
-        DagLedger x = roundTwoWithoutLeader();
+        Counted x = roundTwoWithoutLeader();
         goOnWithout(x, 3, 2);
         int leader = forgeLeader(x);
         Check.no("one is too few to commit it", saidTwo(x));
@@ -94,7 +94,7 @@ public final class OrderTest {
     }
 
     private static void twoStandOnTheLeader() {
-        DagLedger x = roundTwoWithoutLeader();
+        Counted x = roundTwoWithoutLeader();
         goOnWithout(x, 3);
         forgeLeader(x);
         Check.yes("two are enough", saidTwo(x));
@@ -102,7 +102,7 @@ public final class OrderTest {
     }
 
     private static void noneStandsOnTheLeader() {
-        DagLedger x = roundTwoWithoutLeader();
+        Counted x = roundTwoWithoutLeader();
         goOnWithout(x, 3, 2, 0);
         int leader = forgeLeader(x);
         Check.no("it is never committed", saidTwo(x));
@@ -112,7 +112,7 @@ public final class OrderTest {
     }
 
     private static void theLeaderIsNotThere() {
-        DagLedger x = roundTwoWithoutLeader();
+        Counted x = roundTwoWithoutLeader();
         goOnWithout(x, 3, 2, 0);
         Check.no("there is none", saidTwo(x));
         Check.due("none", x.dag(0, 1, 2), -1);
@@ -182,7 +182,7 @@ public final class OrderTest {
     }
 
     private static void transfersAreDoneOnce() {
-        DagLedger x = new DagLedger();
+        Counted x = new Counted();
         x.submit(0, 0, 1, 10);
         x.submit(2, 2, 3, 7);
         x.corrupt(3);
@@ -205,7 +205,7 @@ public final class OrderTest {
     }
 
     private static void balancesAreGuarded() {
-        DagLedger x = new DagLedger();
+        Counted x = new Counted();
         x.submit(0, 0, 1, 101);
         x.submit(0, 0, 2, 100);
         x.submit(1, 0, 1, 1);
@@ -224,7 +224,7 @@ public final class OrderTest {
     }
 
     private static void allFourteenRounds() {
-        DagLedger x = Runs.fourNodes(4, 32);
+        Counted x = Runs.fourNodes(4, 32);
         for (int node = 0; node < 4; node++) {
             Check.due("the last round", x.node(node, 1), 14);
             Check.due("all vertices", x.node(node, 5), 56);

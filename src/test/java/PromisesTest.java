@@ -37,7 +37,7 @@ public final class PromisesTest {
         Check.end();
     }
 
-    private static void nodeIs(String when, DagLedger x, int node, int... due) {
+    private static void nodeIs(String when, Counted x, int node, int... due) {
         for (int what = 0; what < due.length; what++) {
             Check.due(when + ": node(" + node + ", " + what + ")", x.node(node, what), due[what]);
         }
@@ -46,7 +46,7 @@ public final class PromisesTest {
     // Promise 1, and the first answers of 12 to 17
 
     private static void newObject() {
-        DagLedger x = new DagLedger();
+        Counted x = new Counted();
         for (int node = 0; node < 4; node++) {
             nodeIs("new", x, node, 1, 0, 0, 0, 0, 0, 0, 0, 0);
             Check.due("new: at", x.at(node, 0), -1);
@@ -63,7 +63,7 @@ public final class PromisesTest {
     // Promise 2
 
     private static void submitNumbers() {
-        DagLedger x = new DagLedger();
+        Counted x = new Counted();
         Check.due("submit first", x.submit(2, 0, 1, 1), 0);
         Check.due("submit elsewhere", x.submit(0, 3, 2, 1000), 1);
         Check.due("submit again", x.submit(2, 1, 0, 500), 2);
@@ -75,7 +75,7 @@ public final class PromisesTest {
     }
 
     private static void submitRefuses() {
-        DagLedger x = new DagLedger();
+        Counted x = new Counted();
         Check.due("from -1", x.submit(0, -1, 1, 1), -1);
         Check.due("from 4", x.submit(0, 4, 1, 1), -1);
         Check.due("to -1", x.submit(0, 0, -1, 1), -1);
@@ -95,7 +95,7 @@ public final class PromisesTest {
     }
 
     private static void submitThrows() {
-        DagLedger x = new DagLedger();
+        Counted x = new Counted();
         x.crash(1);
         x.corrupt(2);
         Check.notUp("submit down", () -> x.submit(1, 0, 1, 1));
@@ -106,7 +106,7 @@ public final class PromisesTest {
     }
 
     private static void submitAndCut() {
-        DagLedger x = new DagLedger();
+        Counted x = new Counted();
         x.submit(0, 0, 1, 1);
         x.cut(0, 1);
         Check.due("refused writes nothing", x.submit(0, 0, 0, 1), -1);
@@ -119,7 +119,7 @@ public final class PromisesTest {
     // Promise 3
 
     private static void deliverRefuses() {
-        DagLedger x = new DagLedger();
+        Counted x = new Counted();
         Check.no("deliver of none", x.deliver(0, 0));
         x.tick(0);
         Check.no("deliver -1", x.deliver(-1, 0));
@@ -132,13 +132,13 @@ public final class PromisesTest {
         Check.yes("deliver", x.deliver(0, 3));
         Check.due("it was echoed", x.message(1, 0), 1);
         Check.due("mark after deliver", x.node(3, MARK), 0);
-        Check.noSuchNode("deliver of none to none", () -> x.deliver(-1, 4));
+        Check.noSuchNode("deliver of none to none", () -> Check.bit(x.deliver(-1, 4)));
     }
 
     // Promise 4
 
     private static void pumpCounts() {
-        DagLedger x = new DagLedger();
+        Counted x = new Counted();
         Check.due("pump of nothing", x.pump(0, 50), 0);
         for (int node = 0; node < 4; node++) {
             x.tick(node);
@@ -161,7 +161,7 @@ public final class PromisesTest {
     }
 
     private static void pumpRefuses() {
-        DagLedger x = new DagLedger();
+        Counted x = new Counted();
         x.tick(0);
         Check.due("pump 0", x.pump(0, 0), -1);
         Check.due("pump -1", x.pump(0, -1), -1);
@@ -179,7 +179,7 @@ public final class PromisesTest {
     // Promise 5
 
     private static void tickAndTimer() {
-        DagLedger x = new DagLedger();
+        Counted x = new Counted();
         Check.yes("tick", x.tick(3));
         nodeIs("first tick", x, 3, 1, 1, 0, 0, 0, 0, 0, 0, 1);
         Check.due("its author", x.vertex(0, 0), 3);
@@ -200,7 +200,7 @@ public final class PromisesTest {
     }
 
     private static void tickRefuses() {
-        DagLedger x = new DagLedger();
+        Counted x = new Counted();
         x.crash(0);
         x.tick(1);
         x.tick(1);
@@ -209,13 +209,13 @@ public final class PromisesTest {
         Check.no("tick faulty", x.tick(1));
         Check.due("its timer stays", x.node(1, TIMER), 1);
         Check.due("its round stays", x.node(0, ROUND), 0);
-        Check.noSuchNode("tick none", () -> x.tick(4));
+        Check.noSuchNode("tick none", () -> Check.bit(x.tick(4)));
     }
 
     // Promise 6
 
     private static void crashLoses() {
-        DagLedger x = Runs.fourNodes(4, 10);
+        Counted x = Runs.fourNodes(4, 10);
         int round = x.node(0, ROUND);
         int records = x.node(0, RECORDS);
         x.tick(0);
@@ -232,13 +232,13 @@ public final class PromisesTest {
         Check.no("crash of a faulty one", x.crash(1));
         Check.due("it is faulty still", x.node(1, STATE), 2);
         Check.yes("the others lost nothing", x.node(2, IN_DAG) > 0 && x.node(1, IN_DAG) > 0);
-        Check.noSuchNode("crash none", () -> x.crash(-1));
+        Check.noSuchNode("crash none", () -> Check.bit(x.crash(-1)));
     }
 
     // Promise 7
 
     private static void restartBrings() {
-        DagLedger x = Runs.fourNodes(4, 10);
+        Counted x = Runs.fourNodes(4, 10);
         int round = x.node(0, ROUND);
         int records = x.node(0, RECORDS);
         int last = x.node(0, LAST);
@@ -262,13 +262,13 @@ public final class PromisesTest {
         x.corrupt(1);
         Check.no("restart of a faulty one", x.restart(1));
         Check.due("it is faulty still", x.node(1, STATE), 2);
-        Check.noSuchNode("restart none", () -> x.restart(4));
+        Check.noSuchNode("restart none", () -> Check.bit(x.restart(4)));
     }
 
     // Promise 8
 
     private static void cutCounts() {
-        DagLedger x = new DagLedger();
+        Counted x = new Counted();
         x.submit(0, 0, 1, 1);
         Check.yes("cut after 3", x.cut(0, 3));
         x.tick(0);
@@ -298,7 +298,7 @@ public final class PromisesTest {
     }
 
     private static void cutIsReplacedAndOver() {
-        DagLedger x = new DagLedger();
+        Counted x = new Counted();
         x.cut(0, 0);
         x.cut(0, 1);
         Check.due("the later cut counts", x.submit(0, 0, 1, 1), 0);
@@ -317,7 +317,7 @@ public final class PromisesTest {
     }
 
     private static void cutRefuses() {
-        DagLedger x = new DagLedger();
+        Counted x = new Counted();
         x.cut(0, 0);
         Check.no("cut -1", x.cut(0, -1));
         Check.no("cut least", x.cut(0, Integer.MIN_VALUE));
@@ -327,13 +327,13 @@ public final class PromisesTest {
         Check.due("it was not set", x.submit(0, 0, 1, 1), 0);
         x.corrupt(1);
         Check.no("cut of a faulty one", x.cut(1, 0));
-        Check.noSuchNode("cut of none", () -> x.cut(4, -1));
+        Check.noSuchNode("cut of none", () -> Check.bit(x.cut(4, -1)));
     }
 
     // Promise 9
 
     private static void corruptKeeps() {
-        DagLedger x = Runs.fourNodes(4, 10);
+        Counted x = Runs.fourNodes(4, 10);
         x.submit(3, 1, 2, 1);
         x.cut(3, 0);
         int[] before = new int[9];
@@ -355,24 +355,24 @@ public final class PromisesTest {
     }
 
     private static void corruptRefuses() {
-        DagLedger x = new DagLedger();
+        Counted x = new Counted();
         x.submit(2, 0, 1, 1);
         x.crash(2);
-        Check.noSuchNode("corrupt none", () -> x.corrupt(4));
+        Check.noSuchNode("corrupt none", () -> Check.bit(x.corrupt(4)));
         Check.yes("corrupt one that is down", x.corrupt(2));
         nodeIs("down and faulty", x, 2, 2, 0, 0, 0, 0, 0, 0, 1, 1);
         Check.due("it has no balance", x.balance(2, 0), 0);
         Check.no("corrupt it twice", x.corrupt(2));
         Check.no("corrupt another", x.corrupt(0));
         Check.due("the other is up", x.node(0, STATE), 1);
-        Check.noSuchNode("corrupt none, when one is", () -> x.corrupt(-1));
+        Check.noSuchNode("corrupt none, when one is", () -> Check.bit(x.corrupt(-1)));
         Check.due("it forges", x.forge(1, 0, -1, -1), 0);
     }
 
     // Promise 10
 
     private static void forgeMakes() {
-        DagLedger x = new DagLedger();
+        Counted x = new Counted();
         x.submit(1, 0, 1, 1);
         x.submit(0, 0, 1, 1);
         x.corrupt(1);
@@ -394,7 +394,7 @@ public final class PromisesTest {
     }
 
     private static void forgeRefuses() {
-        DagLedger x = new DagLedger();
+        Counted x = new Counted();
         x.submit(0, 0, 1, 1);
         Check.due("none is faulty", x.forge(1, 0, -1, -1), -1);
         x.corrupt(3);
@@ -414,7 +414,7 @@ public final class PromisesTest {
     // Promise 11
 
     private static void sendSends() {
-        DagLedger x = new DagLedger();
+        Counted x = new Counted();
         x.tick(0);
         x.corrupt(2);
         for (int kind = 0; kind < 3; kind++) {
@@ -428,7 +428,7 @@ public final class PromisesTest {
     }
 
     private static void sendRefuses() {
-        DagLedger x = new DagLedger();
+        Counted x = new Counted();
         x.tick(0);
         Check.due("none is faulty", x.send(0, 0), -1);
         x.corrupt(2);
@@ -442,7 +442,7 @@ public final class PromisesTest {
     // Promises 12 to 17
 
     private static void queriesOfNothing() {
-        DagLedger x = Runs.fourNodes(4, 10);
+        Counted x = Runs.fourNodes(4, 10);
         Check.due("message -1", x.message(-1, 0), -1);
         Check.due("message beyond", x.message(800, 0), -1);
         Check.due("message far beyond", x.message(Integer.MAX_VALUE, 0), -1);
@@ -467,16 +467,16 @@ public final class PromisesTest {
     }
 
     private static void noSuchNode() {
-        DagLedger x = new DagLedger();
+        Counted x = new Counted();
         for (int none : new int[] {-1, 4, Integer.MIN_VALUE, Integer.MAX_VALUE}) {
             Check.noSuchNode("submit", () -> x.submit(none, 0, 1, 1));
-            Check.noSuchNode("deliver", () -> x.deliver(0, none));
+            Check.noSuchNode("deliver", () -> Check.bit(x.deliver(0, none)));
             Check.noSuchNode("pump", () -> x.pump(none, 1));
-            Check.noSuchNode("tick", () -> x.tick(none));
-            Check.noSuchNode("crash", () -> x.crash(none));
-            Check.noSuchNode("restart", () -> x.restart(none));
-            Check.noSuchNode("cut", () -> x.cut(none, 0));
-            Check.noSuchNode("corrupt", () -> x.corrupt(none));
+            Check.noSuchNode("tick", () -> Check.bit(x.tick(none)));
+            Check.noSuchNode("crash", () -> Check.bit(x.crash(none)));
+            Check.noSuchNode("restart", () -> Check.bit(x.restart(none)));
+            Check.noSuchNode("cut", () -> Check.bit(x.cut(none, 0)));
+            Check.noSuchNode("corrupt", () -> Check.bit(x.corrupt(none)));
             Check.noSuchNode("node", () -> x.node(none, 0));
             Check.noSuchNode("node, wrong what", () -> x.node(none, 9));
             Check.noSuchNode("dag", () -> x.dag(none, 0, 1));

@@ -4,8 +4,8 @@ final class Runs {
     }
 
     /** Nodes 0 to 3 with a few transfers, so many of them ticked once, all pumped in turn so many times. */
-    static DagLedger fourNodes(int ticked, int sweeps) {
-        DagLedger x = new DagLedger();
+    static Counted fourNodes(int ticked, int sweeps) {
+        Counted x = new Counted();
         x.submit(0, 0, 1, 30);
         x.submit(1, 1, 2, 120);
         x.submit(0, 2, 3, 5);
@@ -16,7 +16,7 @@ final class Runs {
         return x;
     }
 
-    static void sweep(DagLedger x, int times, int... nodes) {
+    static void sweep(Counted x, int times, int... nodes) {
         for (int i = 0; i < times; i++) {
             for (int node : nodes) {
                 x.pump(node, 50);
@@ -24,7 +24,7 @@ final class Runs {
         }
     }
 
-    static void tick(DagLedger x, int node, int times) {
+    static void tick(Counted x, int node, int times) {
         for (int i = 0; i < times; i++) {
             x.tick(node);
         }

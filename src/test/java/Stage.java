@@ -5,7 +5,7 @@ import java.util.HashMap;
  * itself is not asked for them: its calls are numbered.
  */
 final class Stage {
-    final DagLedger x = new DagLedger();
+    final Counted x = new Counted();
     private final Model model = new Model(new HashMap<>());
     private final int[] honest;
 
@@ -20,6 +20,11 @@ final class Stage {
     void corrupt(int node) {
         x.corrupt(node);
         model.corrupt(node);
+    }
+
+    void fallAndRise(int node) {
+        Check.yes("crash", x.crash(node) && model.crash(node));
+        Check.yes("restart", x.restart(node) && model.restart(node));
     }
 
     void tick(int node, int times) {
