@@ -114,14 +114,17 @@ public final class EdgesOfCallsTest {
         Check.about("Promise 3: a node takes a message: true");
         Counted x = new Counted();
         x.tick(0);
+        x.tick(1);
         for (int i = 0; i < 3; i++) {
             for (int node = 0; node < 4; node++) {
-                Check.yes("deliver", x.deliver(0, node));
+                Check.yes("deliver", x.deliver(1, node));
                 Check.due("MARK does not go along", x.node(node, 3), 0);
             }
         }
-        Check.due("one echo of each", x.message(4, 0), 1);
-        Check.due("and no more", x.message(5, 0), -1);
+        Check.due("one echo of each", x.message(5, 0), 1);
+        Check.due("and no more", x.message(6, 0), -1);
+        Check.due("pump begins at MARK", x.pump(0, 1), 1);
+        Check.due("an echo of the first", x.message(6, 2), 0);
     }
 
     private static void deliverWhileItGoesDown() {

@@ -10,7 +10,6 @@ public final class OrderTest {
         twoStandOnTheLeader();
         noneStandsOnTheLeader();
         theLeaderIsNotThere();
-        reachedFromTheLastThatWasFound();
         twoCommitsAtOnce();
         transfersAreDoneOnce();
         balancesAreGuarded();
@@ -118,47 +117,6 @@ public final class OrderTest {
         Check.due("none", x.dag(0, 1, 2), -1);
         Check.yes("a later one is committed", x.node(0, 4) >= 4);
         orderIs(x, 0, 1, 4, 2);
-    }
-
-    /** The leader of round 6 reaches those of rounds 4 and 2, but that of round 4 does not reach that of round 2. */
-    private static void reachedFromTheLastThatWasFound() {
-        Stage s = new Stage(HONEST);
-        for (int i = 0; i < 3; i++) {
-            s.submit(0, 0, 1, 1);
-        }
-        s.submit(1, 0, 1, 8);
-        s.corrupt(1);
-        for (int node : HONEST) {
-            s.tick(node, 1);
-        }
-        s.sweep(6);
-        s.tick(2, 3);
-        s.tick(3, 3);
-        int two = s.forge(2, 13, 3);
-        s.spread(two, 0);
-        int onTwo = s.madeLast(0);
-        Check.due("node 0 stands on the leader of round 2", s.x.vertex(onTwo, 2), 15);
-        int[] three = {s.forge(3, 13, -1), s.madeLast(2), s.madeLast(3)};
-        for (int v : three) {
-            s.spread(v, HONEST);
-        }
-        int four = s.madeLast(2);
-        Check.due("the leader of round 4 does not stand on node 0's", s.x.vertex(four, 2), 14);
-        s.spread(two, 2, 3);
-        s.spread(onTwo, HONEST);
-        int[] besideFour = {s.forge(4, 14, -1), s.madeLast(3), s.madeLast(0)};
-        for (int v : besideFour) {
-            s.spread(v, HONEST);
-        }
-        s.tick(0, 3);
-        s.tick(3, 3);
-        s.sweep(12);
-        Check.due("node 0 does not stand on the leader of round 4", s.x.vertex(s.x.dag(0, 0, 5), 2), 11);
-        Check.due("node 2 does", s.x.vertex(s.x.dag(0, 2, 5), 2), 15);
-        Check.due("node 3 does not", s.x.vertex(s.x.dag(0, 3, 5), 2), 11);
-        Check.yes("round 6 is committed", s.x.node(0, 4) >= 6);
-        // Were 3 emitted with the leader of round 2, it would come before 2.
-        orderIs(s.x, 0, 1, 2, 3);
     }
 
     /** Node 3 has all but a vertex of round 1; when that comes, all is put on it, and two leaders are committed. */

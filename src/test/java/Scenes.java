@@ -96,6 +96,7 @@ final class Scenes {
         for (int i = 0; i < 4; i++) {
             int node = i;
             Check.answer(() -> Check.bit(x.restart(node)));
+            Check.answer(() -> x.submit(node, 1, 0, 1));
             Check.answer(() -> x.pump(node, 50));
         }
         x.corrupt(0);
