@@ -598,7 +598,7 @@ public final class DagLedger {
         }
     }
 
-    /** A node. All but its disk is as empty while it is down as the document tells, so nobody who asks needs to look. */
+    /** A node. While it is down, all but its disk is as empty as the document tells: who asks need not look first. */
     private static final class Replica {
         private final int id;
         private final Board board;
