@@ -1,12 +1,13 @@
 import java.util.Random;
 
 /**
- * Any arguments in any state, also after the 512th call, when answers are free: a call throws what the document says
- * for it and nothing else, and it ends.
+ * Any arguments in any state: a call throws what the document says for it and nothing else, and it ends. After the
+ * 512th call the document promises nothing, but LANGUAGE.md still does: no call throws by itself.
  */
 public final class AnyArgumentsTest {
     private static final int RUNS = 200;
     private static final int CALLS = 1500;
+    private static final int PROMISED = 512;
     private static final int[] ODD = {
         Integer.MIN_VALUE, Integer.MIN_VALUE + 1, -801, -91, -41, -16, -5, -4, -3, -2, -1, 4, 5, 9, 15, 16, 31, 32, 33,
         39, 40, 41, 50, 51, 63, 64, 65, 89, 90, 91, 799, 800, 801, 802, 803, 1000, 1001, 1 << 30,
@@ -20,6 +21,7 @@ public final class AnyArgumentsTest {
     private final Random random;
     private final int oddPercent;
     private int node;
+    private int calls = 0;
 
     private AnyArgumentsTest(int run) {
         random = new Random(run);
@@ -74,24 +76,31 @@ public final class AnyArgumentsTest {
         return node >= 0 && node < 4;
     }
 
-    private static boolean isThrown(int answer) {
-        return answer <= Check.NO_SUCH_NODE;
-    }
-
     private void ofNone(String call, Check.Call made) {
-        Check.no(call + " throws", isThrown(Check.answer(made)));
+        throwsOnly(call, 0, made);
     }
 
     private void ofNode(String call, Check.Call made) {
-        int due = isNode() ? 0 : Check.NO_SUCH_NODE;
-        int answer = Check.answer(made);
-        Check.due(call + " of node " + node + " throws", isThrown(answer) ? answer : 0, due);
+        throwsOnly(call + " of node " + node, isNode() ? 0 : Check.NO_SUCH_NODE, made);
     }
 
     private void submitOrPump(String call, Check.Call made) {
-        boolean isUp = isNode() && x.node(node, 0) == 1;
-        int due = isUp ? 0 : isNode() ? Check.NOT_UP : Check.NO_SUCH_NODE;
-        int answer = Check.answer(made);
-        Check.due(call + " of node " + node + " throws", isThrown(answer) ? answer : 0, due);
+        boolean isUp = isNode() && asked(() -> x.node(node, 0)) == 1;
+        throwsOnly(call + " of node " + node, isUp ? 0 : isNode() ? Check.NOT_UP : Check.NO_SUCH_NODE, made);
+    }
+
+    private int asked(Check.Call made) {
+        calls++;
+        return Check.answer(made);
+    }
+
+    private void throwsOnly(String call, int due, Check.Call made) {
+        int answer = asked(made);
+        if (calls <= PROMISED) {
+            boolean isThrown = answer <= Check.NO_SUCH_NODE;
+            Check.due(call + " throws", isThrown ? answer : 0, due);
+        } else {
+            Check.no(call + " throws by itself", answer == Check.OTHERWISE_THROWN);
+        }
     }
 }

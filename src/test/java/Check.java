@@ -3,7 +3,7 @@ final class Check {
     /** What stands for an answer if the call throws; no call answers these. */
     static final int NO_SUCH_NODE = -1001;
     static final int NOT_UP = -1002;
-    private static final int OTHERWISE_THROWN = -1003;
+    static final int OTHERWISE_THROWN = -1003;
 
     private static final int SHOWN = 40;
     private static String sentence = "";

@@ -11,6 +11,7 @@ public final class EdgesOfRulesTest {
     public static void main(String[] args) {
         insertOnAllParents();
         insertOnFourParents();
+        insertAllBeforeAdvance();
         firstVertexNeedsATick();
         ownVertexMustBeThere();
         threeOfARoundMustBeThere();
@@ -72,6 +73,27 @@ public final class EdgesOfRulesTest {
         Check.due("three of four are there", s.x.node(3, IN_DAG), 3);
         s.deliverReadies(3, 3);
         Check.due("all are there", s.x.node(3, IN_DAG), 5);
+    }
+
+    private static void insertAllBeforeAdvance() {
+        Check.about("it acts by these RULES, as long as one applies, the first that does first");
+        Stage s = allTicked();
+        s.spread(0, 0, 1);
+        s.spread(1, 0, 1, 2, 3);
+        s.spread(2, 0, 1, 2, 3);
+        s.spread(3, 2, 3);
+        Check.due("node 0 stands on 0, 1, 2", s.x.vertex(s.madeLast(0), 2), 7);
+        Check.due("node 2 stands on 1, 2, 3", s.x.vertex(s.madeLast(2), 2), 14);
+        Check.due("node 3 stands on 1, 2, 3", s.x.vertex(s.madeLast(3), 2), 14);
+        for (int v = 4; v < 8; v++) {
+            s.spread(v, 0);
+        }
+        Check.due("two of round 2 wait for vertex 3", s.x.node(0, IN_DAG), 5);
+        Check.due("ROUND with two of round 2", s.x.node(0, ROUND), 2);
+        s.deliverReadies(3, 0);
+        Check.due("both came with it", s.x.node(0, IN_DAG), 8);
+        Check.due("ROUND with four of round 2", s.x.node(0, ROUND), 3);
+        Check.due("it went on when both were there", s.x.vertex(s.madeLast(0), 2), 15);
     }
 
     private static void firstVertexNeedsATick() {

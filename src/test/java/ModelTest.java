@@ -4,12 +4,17 @@ import java.util.Random;
 import java.util.TreeMap;
 
 /**
- * Long mixed runs, the same ones each time, answered by the program as by the model. What only asks changes nothing, so
- * it is not counted among the calls of a run.
+ * Long mixed runs, the same ones each time, answered by the program as by the model. Several objects play each run side
+ * by side and are asked different things on the way, for none of them may be asked beyond its 512 calls.
  */
 public final class ModelTest {
     private static final int RUNS = 1200;
+    private static final int TWINS = 8;
     private static final int CALLS = 512;
+    /** Of the calls of an object so many at most are kept for asking, .. */
+    private static final int QUESTIONS = 160;
+    /** .. but fewer where the board is to be filled. */
+    private static final int QUESTIONS_TO_TALKER = 20;
 
     /** What the runs must have met, else they prove little. */
     private static final List<String> RARE = List.of(
@@ -34,15 +39,17 @@ public final class ModelTest {
         {48, 2, 12, 6, 26, 5}, // a forger
         {40, 36, 10, 8, 0, 2}, // messages out of order
         {92, 0, 6, 2, 0, 0}, // a talker, who is silent at first ..
-        {4, 1, 1, 1, 1, 91}, // .. and then fills the board
+        {3, 1, 1, 1, 1, 92}, // .. and then fills the board, ..
+        {35, 20, 15, 5, 5, 5}, // .. which is full then
     };
     private static final int FORGER = 3;
     private static final int OUT_OF_ORDER = 4;
     private static final int TALKER = 5;
-    private static final int TALK_FROM = 140;
+    private static final int TALK_FROM = 130;
+    private static final int FULL = 800;
 
     private final Random random;
-    private final DagLedger real = new DagLedger();
+    private final Counted[] twins = new Counted[TWINS];
     private final Model model;
     private final int run;
     private final int style;
@@ -52,8 +59,15 @@ public final class ModelTest {
         this.run = run;
         random = new Random(run);
         model = new Model(seen);
-        style = run % (STYLES.length - 1);
+        style = run % (TALKER + 1);
         laggard = random.nextInt(4);
+        for (int i = 0; i < TWINS; i++) {
+            twins[i] = new Counted();
+        }
+    }
+
+    private interface Call {
+        int of(Counted x);
     }
 
     public static void main(String[] args) {
@@ -69,17 +83,38 @@ public final class ModelTest {
     }
 
     private void runCalls() {
-        for (int call = 0; call < CALLS && Check.wrong() == 0; call++) {
-            oneCall(call);
-            if (call % 8 == 0 || call == CALLS - 1) {
-                lookAtNodes();
+        int questions = random.nextInt((style == TALKER ? QUESTIONS_TO_TALKER : QUESTIONS) + 1);
+        int steps = CALLS - questions;
+        for (int step = 0; step < steps && Check.wrong() == 0; step++) {
+            oneCall(step);
+            boolean mayAsk = twins[0].callsLeft() >= steps - step;
+            if (mayAsk && chance(100 * questions / (2 * steps))) {
+                ask(1);
             }
         }
-        lookAtBoard();
+        ask(questions);
     }
 
-    private void same(String call, Check.Call got, Check.Call want) {
-        Check.due("run " + run + ": " + call, Check.answer(got), Check.answer(want));
+    /** All do it, and answer as the model does. */
+    private void same(String call, Call made, Check.Call want) {
+        int due = Check.answer(want);
+        for (Counted x : twins) {
+            Check.due("run " + run + ": " + call, Check.answer(() -> made.of(x)), due);
+        }
+    }
+
+    /** Each is asked so many things, as far as it may be. */
+    private void ask(int most) {
+        for (Counted x : twins) {
+            int questions = Math.min(most, x.callsLeft());
+            for (int i = 0; i < questions && Check.wrong() == 0; i++) {
+                askOne(x);
+            }
+        }
+    }
+
+    private void answers(Counted x, String question, Call asked, Check.Call want) {
+        Check.due("run " + run + ": " + question, Check.answer(() -> asked.of(x)), Check.answer(want));
     }
 
     private boolean chance(int percent) {
@@ -99,7 +134,7 @@ public final class ModelTest {
             corruptOne(laggard);
             return;
         }
-        int[] weights = STYLES[style == TALKER && call > TALK_FROM ? style + 1 : style];
+        int[] weights = STYLES[styleAt(call)];
         int roll = random.nextInt(100);
         int kind = 0;
         while (kind < weights.length && roll >= weights[kind]) {
@@ -117,6 +152,13 @@ public final class ModelTest {
         }
     }
 
+    private int styleAt(int call) {
+        if (style != TALKER || call <= TALK_FROM) {
+            return style;
+        }
+        return model.messages() < FULL ? TALKER + 1 : TALKER + 2;
+    }
+
     private void pumpSome(int call) {
         int node = anyNode();
         if (node == laggard && (style == 1 && chance(85) || style == OUT_OF_ORDER && call < 300)) {
@@ -127,11 +169,11 @@ public final class ModelTest {
             return;
         }
         int n = chance(2) ? random.nextInt(54) - 1 : style == 2 ? 1 + random.nextInt(12) : 1 + random.nextInt(50);
-        same("pump(" + node + ", " + n + ")", () -> real.pump(node, n), () -> model.pump(node, n));
+        same("pump(" + node + ", " + n + ")", x -> x.pump(node, n), () -> model.pump(node, n));
     }
 
     private void pumpAll(int node) {
-        same("pump(" + node + ", 50)", () -> real.pump(node, 50), () -> model.pump(node, 50));
+        same("pump(" + node + ", 50)", x -> x.pump(node, 50), () -> model.pump(node, 50));
     }
 
     private void deliverSome(int call) {
@@ -141,12 +183,12 @@ public final class ModelTest {
             return;
         }
         same("deliver(" + m + ", " + node + ")",
-            () -> Check.bit(real.deliver(m, node)), () -> Check.bit(model.deliver(m, node)));
+            x -> Check.bit(x.deliver(m, node)), () -> Check.bit(model.deliver(m, node)));
     }
 
     private void tickSome() {
         int node = anyNode();
-        same("tick(" + node + ")", () -> Check.bit(real.tick(node)), () -> Check.bit(model.tick(node)));
+        same("tick(" + node + ")", x -> Check.bit(x.tick(node)), () -> Check.bit(model.tick(node)));
     }
 
     private void submitSome() {
@@ -156,7 +198,7 @@ public final class ModelTest {
         int amount = chance(5) ? List.of(0, 1, 1000, 1001, -1, 100).get(random.nextInt(6))
             : 10 * (1 + random.nextInt(15));
         same("submit(" + node + ", " + from + ", " + to + ", " + amount + ")",
-            () -> real.submit(node, from, to, amount), () -> model.submit(node, from, to, amount));
+            x -> x.submit(node, from, to, amount), () -> model.submit(node, from, to, amount));
     }
 
     private void forgeSome() {
@@ -166,72 +208,67 @@ public final class ModelTest {
         int a = near(model.transferCount());
         int b = chance(30) ? a : near(model.transferCount()) - random.nextInt(2);
         same("forge(" + round + ", " + parents + ", " + a + ", " + b + ")",
-            () -> real.forge(round, parents, a, b), () -> model.forge(round, parents, a, b));
+            x -> x.forge(round, parents, a, b), () -> model.forge(round, parents, a, b));
     }
 
     private void sendSome() {
         int kind = chance(3) ? random.nextInt(7) - 2 : random.nextInt(3);
         int v = near(model.vertexCount());
-        same("send(" + kind + ", " + v + ")", () -> real.send(kind, v), () -> model.send(kind, v));
+        same("send(" + kind + ", " + v + ")", x -> x.send(kind, v), () -> model.send(kind, v));
     }
 
     private void breakSome() {
         int node = anyNode();
         int roll = random.nextInt(100);
         if (roll < 10) {
-            same("crash(" + node + ")", () -> Check.bit(real.crash(node)), () -> Check.bit(model.crash(node)));
+            same("crash(" + node + ")", x -> Check.bit(x.crash(node)), () -> Check.bit(model.crash(node)));
         } else if (roll < 25 || roll >= 60) {
-            same("restart(" + node + ")", () -> Check.bit(real.restart(node)), () -> Check.bit(model.restart(node)));
+            same("restart(" + node + ")", x -> Check.bit(x.restart(node)), () -> Check.bit(model.restart(node)));
         } else if (roll < 45) {
             int k = random.nextInt(12) - 1;
             same("cut(" + node + ", " + k + ")",
-                () -> Check.bit(real.cut(node, k)), () -> Check.bit(model.cut(node, k)));
+                x -> Check.bit(x.cut(node, k)), () -> Check.bit(model.cut(node, k)));
         } else if (roll < 50) {
             corruptOne(node);
         }
     }
 
     private void corruptOne(int node) {
-        same("corrupt(" + node + ")", () -> Check.bit(real.corrupt(node)), () -> Check.bit(model.corrupt(node)));
+        same("corrupt(" + node + ")", x -> Check.bit(x.corrupt(node)), () -> Check.bit(model.corrupt(node)));
     }
 
-    private void lookAtNodes() {
-        for (int i = 0; i < 4; i++) {
-            int node = i;
-            for (int w = -1; w <= 9; w++) {
-                int what = w;
-                same("node(" + node + ", " + what + ")", () -> real.node(node, what), () -> model.node(node, what));
+    private void askOne(Counted x) {
+        int node = anyNode();
+        switch (random.nextInt(6)) {
+            case 0 -> {
+                int m = near(model.messages());
+                int what = chance(2) ? random.nextInt(5) - 1 : random.nextInt(3);
+                answers(x, "message(" + m + ", " + what + ")", y -> y.message(m, what), () -> model.message(m, what));
             }
-            for (int p = -1; p <= 40; p++) {
-                int position = p;
-                same("at(" + node + ", " + p + ")", () -> real.at(node, position), () -> model.at(node, position));
+            case 1 -> {
+                int v = near(model.vertexCount());
+                int what = chance(2) ? random.nextInt(7) - 1 : random.nextInt(5);
+                answers(x, "vertex(" + v + ", " + what + ")", y -> y.vertex(v, what), () -> model.vertex(v, what));
             }
-            for (int a = -1; a <= 4; a++) {
-                int author = a;
-                same("balance(" + node + ", " + a + ")",
-                    () -> real.balance(node, author), () -> model.balance(node, author));
-                for (int r = -1; r <= 16; r++) {
-                    int round = r;
-                    same("dag(" + node + ", " + a + ", " + r + ")",
-                        () -> real.dag(node, author, round), () -> model.dag(node, author, round));
-                }
+            case 2 -> {
+                int what = random.nextInt(11) - 1;
+                answers(x, "node(" + node + ", " + what + ")", y -> y.node(node, what), () -> model.node(node, what));
             }
-        }
-    }
-
-    private void lookAtBoard() {
-        for (int i = -1; i <= model.messages() + 1; i++) {
-            int m = i;
-            for (int w = -1; w <= 3; w++) {
-                int what = w;
-                same("message(" + m + ", " + what + ")", () -> real.message(m, what), () -> model.message(m, what));
+            case 3 -> {
+                int author = chance(2) ? random.nextInt(8) - 2 : random.nextInt(4);
+                int round = random.nextInt(18) - 1;
+                answers(x, "dag(" + node + ", " + author + ", " + round + ")",
+                    y -> y.dag(node, author, round), () -> model.dag(node, author, round));
             }
-        }
-        for (int i = -1; i <= 91; i++) {
-            int v = i;
-            for (int w = -1; w <= 5; w++) {
-                int what = w;
-                same("vertex(" + v + ", " + what + ")", () -> real.vertex(v, what), () -> model.vertex(v, what));
+            case 4 -> {
+                int position = near(model.transferCount());
+                answers(x, "at(" + node + ", " + position + ")",
+                    y -> y.at(node, position), () -> model.at(node, position));
+            }
+            default -> {
+                int account = chance(5) ? random.nextInt(8) - 2 : random.nextInt(4);
+                answers(x, "balance(" + node + ", " + account + ")",
+                    y -> y.balance(node, account), () -> model.balance(node, account));
             }
         }
     }
